@@ -61,7 +61,6 @@ public final class PaymentHub {
     private static final int MOST_CUT_BYTES = 300;
 
     private final Text text;
-    private final Tree tree;
     private final Message message;
     private final Records records;
     private final Form form;
@@ -69,7 +68,7 @@ public final class PaymentHub {
     private int clock;
 
     public PaymentHub(int open, int limit) {
-        tree = new Tree();
+        Tree tree = new Tree();
         text = new Text(tree);
         message = new Message(tree);
         records = new Records();
