@@ -11,7 +11,7 @@ import java.util.regex.Pattern;
 
 /**
  * The document once more, in the plainest way: only the bytes of the journal are kept, and all that
- * the hub holds is read from them anew for every question.
+ * the hub holds is read from them anew, from the beginning, whenever they have changed.
  */
 final class Model {
     /** An element of a document. */
@@ -82,6 +82,7 @@ final class Model {
     private int clock = 0;
     private boolean down = false;
     private int[] said = null;
+    private State known = null;
 
     Model(int open, int limit) {
         this.open = open < 0 ? 0 : open > 1000000 ? 1000000 : open;
@@ -191,6 +192,7 @@ final class Model {
         if (!down) {
             return false;
         }
+        known = null;
         int whole = wholeBytes();
         while (journal.size() > whole) {
             journal.remove(journal.size() - 1);
@@ -245,6 +247,7 @@ final class Model {
     }
 
     private boolean write(int kind, int... data) {
+        known = null;
         List<Integer> record = new ArrayList<>();
         record.add(kind);
         record.add(data.length);
@@ -287,6 +290,13 @@ final class Model {
     }
 
     private State state() {
+        if (known == null) {
+            known = replay();
+        }
+        return known;
+    }
+
+    private State replay() {
         State s = new State();
         int whole = wholeBytes();
         for (int at = 0; at < whole; at += journal.get(at + 1) + 3) {
