@@ -210,6 +210,41 @@ final class RulesTest {
     private static void longJournal(Check check) {
         fill(check, 0, 3);
         fill(check, 9, 4);
+        for (int bound = 3998; bound <= 4001; bound++) {
+            boolean met = false;
+            for (int shorter = 0; shorter < 57 && !met; shorter++) {
+                met = answerAt(check, bound, shorter);
+            }
+            check.due("a journal of " + bound + " bytes was met", met, true);
+        }
+    }
+
+    /** Tries a Q that is good but for the bound when the journal has just so many bytes; answers whether it ever had. */
+    private static boolean answerAt(Check check, int bound, int shorter) {
+        PaymentHub hub = new PaymentHub(1000000, 1000000);
+        for (int i = 10; i < 29; i++) {
+            String name = ("pp" + i).substring(0, 4 - Math.max(0, Math.min(3, shorter - 3 * (i - 10))));
+            name = name.length() < 4 ? (char) ('a' + i - 10) + name.substring(1) : name;
+            Check.say(hub, Check.payment(name, Check.transfer("tt" + i, 'A', 'B', "12345.67")));
+        }
+        int held = 0;
+        for (int step = 0; step < 1000 && hub.journal() < bound; step++) {
+            int t = hub.work();
+            if (t >= 0 && t < 100) {
+                held = t + 10;
+            } else if (t < 0) {
+                Check.say(hub, Check.answer("qq" + held, "tt" + held, 'A'));
+                Check.say(hub, Check.back("rr" + held, "tt" + held, "12345.67"));
+            }
+        }
+        boolean met = hub.journal() == bound && hub.transaction(held - 10, 0) == 3;
+        if (met) {
+            String added = Check.payment("zz", Check.transfer("zz", 'A', 'B', "1"));
+            String text = bound % 2 == 0 ? added : Check.answer("zz", "tt" + held, 'A');
+            check.due("P or Q at " + bound, Check.say(hub, text), bound < 4000 ? 0 : 9);
+            check.due("Q behind it", Check.say(hub, Check.answer("yy", "tt" + held, 'R')), bound < 4000 ? hub.journal() < 4000 ? 11 : 9 : 9);
+        }
+        return met;
     }
 
     /** The reports that are sent move the place in the journal at which the bound is passed. */

@@ -6,6 +6,8 @@ final class TextTest {
         check.group("well-formed");
         wellFormed(check);
         notWellFormed(check);
+        manyElements(check);
+        cutOff(check);
         check.group("valid");
         valid(check);
         notValid(check);
@@ -45,6 +47,38 @@ final class TextTest {
         };
         for (String text : texts) {
             answers(check, text, 1);
+        }
+    }
+
+    private static void manyElements(Check check) {
+        String most = "<a>" + "<b/>".repeat(73) + "</a>";
+        answers(check, most, 2);
+        answers(check, most + " ", 2);
+        answers(check, most.replace("</a>", "</b>"), 1);
+        answers(check, "<a/>" + " ".repeat(296), 2);
+        answers(check, " ".repeat(296) + "<a/>", 2);
+        answers(check, "<a>" + "x".repeat(293) + "</a>", 2);
+        answers(check, "<!--" + "x".repeat(289) + "--><a/>", 2);
+        String[] tails = {"<", "<a", "<a ", "<a/", "</", "</a", "</a ", "<!", "<!-", "<!--", "<!--x", "<!---", "<!----", "&", "&#", "&#6", "&#65", "&#065"};
+        for (String tail : tails) {
+            answers(check, "<a>" + "x".repeat(297 - tail.length()) + tail, 1);
+            answers(check, " ".repeat(300 - tail.length()) + tail, 1);
+        }
+    }
+
+    /** What an earlier text had at a place is not there any more. */
+    private static void cutOff(Check check) {
+        String[] texts = {"<Q><I>b</I ><O>&#120;</O><V>A</V></Q >", "<a><b/><!-- - --></a>", "<a />"};
+        for (String text : texts) {
+            PaymentHub hub = new PaymentHub(0, 0);
+            for (int length = 0; length < text.length(); length++) {
+                Check.say(hub, text);
+                check.due("the first " + length + " of " + text, Check.say(hub, text.substring(0, length)), 1);
+            }
+            Check.say(hub, text + "<!-- x -->");
+            check.due("a comment cut off", Check.say(hub, text + "<!-- x --"), 1);
+            Check.say(hub, text + "<!-- x -->");
+            check.due("a comment cut off", Check.say(hub, text + "<!-- x -"), 1);
         }
     }
 
