@@ -9,6 +9,11 @@ public final class AllTests {
         MoveTest.run(check);
         PowerTest.run(check);
         LookTest.run(check);
+        TextEdgeTest.run(check);
+        RuleEdgeTest.run(check);
+        RecordEdgeTest.run(check);
+        CallEdgeTest.run(check);
+        LookEdgeTest.run(check);
         FaceTest.run(check);
         ModelTest.run(check);
         for (int i = 0; i < check.wrong().size() && i < 50; i++) {

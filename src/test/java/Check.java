@@ -82,6 +82,29 @@ final class Check {
         return letter + String.valueOf(68 - 3 * (letter - 'A'));
     }
 
+    /** A payment message p<first> of so many transactions t<first>, .., each of the amount from A to B. */
+    static String row(int first, int count, String amount) {
+        String[] transfers = new String[count];
+        for (int i = 0; i < count; i++) {
+            transfers[i] = transfer("t" + (first + i), 'A', 'B', amount);
+        }
+        return payment("p" + first, transfers);
+    }
+
+    /** Submits so many transactions t0, t1, .. from A to B, three a message as far as they go. */
+    static PaymentHub filled(PaymentHub hub, int count, String amount) {
+        for (int first = 0; first < count; first += 3) {
+            say(hub, row(first, Math.min(3, count - first), amount));
+        }
+        return hub;
+    }
+
+    static void work(PaymentHub hub, int times) {
+        for (int i = 0; i < times; i++) {
+            hub.work();
+        }
+    }
+
     static String answer(String name, String original, char verdict) {
         return "<Q><I>" + name + "</I><O>" + original + "</O><V>" + verdict + "</V></Q>";
     }

@@ -117,27 +117,11 @@ final class RulesTest {
         check.due("good at last", Check.say(hub, all), 0);
     }
 
-    private static String three(int first) {
-        String[] transfers = new String[3];
-        for (int i = 0; i < 3; i++) {
-            transfers[i] = Check.transfer("t" + (first + i), 'A', 'B', "1");
-        }
-        return Check.payment("p" + first, transfers);
-    }
-
-    private static PaymentHub withEighteen() {
-        PaymentHub hub = new PaymentHub(1000000, 0);
-        for (int first = 0; first < 18; first += 3) {
-            Check.say(hub, three(first));
-        }
-        return hub;
-    }
-
     private static void numberOfTransactions(Check check) {
-        PaymentHub hub = withEighteen();
+        PaymentHub hub = Check.filled(new PaymentHub(1000000, 0), 18, "1");
         check.due("18 are there", hub.transaction(17, 0), 1);
-        check.due("21 are too many", Check.say(hub, three(18)), 9);
-        check.due("21 with an old E", Check.say(hub, three(18).replace("t20", "t2")), 8);
+        check.due("21 are too many", Check.say(hub, Check.row(18, 3, "1")), 9);
+        check.due("21 with an old E", Check.say(hub, Check.row(18, 3, "1").replace("t20", "t2")), 8);
         check.due("20 are not", Check.say(hub, Check.payment("b", Check.transfer("u", 'A', 'B', "1"),
                 Check.transfer("v", 'A', 'B', "1"))), 0);
         check.due("the last one", hub.transaction(19, 0), 1);
@@ -205,46 +189,11 @@ final class RulesTest {
 
     /**
      * The bound of 4000 bytes lies beyond what 512 calls can write, so here are more than the document speaks of.
-     * (The bound of work(), 5000 bytes, lies beyond what any run can write: 20 transactions make at most 4800.)
+     * RuleEdgeTest looks at the bound itself.
      */
     private static void longJournal(Check check) {
         fill(check, 0, 3);
         fill(check, 9, 4);
-        for (int bound = 3998; bound <= 4001; bound++) {
-            boolean met = false;
-            for (int shorter = 0; shorter < 57 && !met; shorter++) {
-                met = answerAt(check, bound, shorter);
-            }
-            check.due("a journal of " + bound + " bytes was met", met, true);
-        }
-    }
-
-    /** Tries a Q that is good but for the bound when the journal has just so many bytes; answers whether it ever had. */
-    private static boolean answerAt(Check check, int bound, int shorter) {
-        PaymentHub hub = new PaymentHub(1000000, 1000000);
-        for (int i = 10; i < 29; i++) {
-            String name = ("pp" + i).substring(0, 4 - Math.max(0, Math.min(3, shorter - 3 * (i - 10))));
-            name = name.length() < 4 ? (char) ('a' + i - 10) + name.substring(1) : name;
-            Check.say(hub, Check.payment(name, Check.transfer("tt" + i, 'A', 'B', "12345.67")));
-        }
-        int held = 0;
-        for (int step = 0; step < 1000 && hub.journal() < bound; step++) {
-            int t = hub.work();
-            if (t >= 0 && t < 100) {
-                held = t + 10;
-            } else if (t < 0) {
-                Check.say(hub, Check.answer("qq" + held, "tt" + held, 'A'));
-                Check.say(hub, Check.back("rr" + held, "tt" + held, "12345.67"));
-            }
-        }
-        boolean met = hub.journal() == bound && hub.transaction(held - 10, 0) == 3;
-        if (met) {
-            String added = Check.payment("zz", Check.transfer("zz", 'A', 'B', "1"));
-            String text = bound % 2 == 0 ? added : Check.answer("zz", "tt" + held, 'A');
-            check.due("P or Q at " + bound, Check.say(hub, text), bound < 4000 ? 0 : 9);
-            check.due("Q behind it", Check.say(hub, Check.answer("yy", "tt" + held, 'R')), bound < 4000 ? hub.journal() < 4000 ? 11 : 9 : 9);
-        }
-        return met;
     }
 
     /** The reports that are sent move the place in the journal at which the bound is passed. */
