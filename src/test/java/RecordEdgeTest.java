@@ -18,6 +18,7 @@ final class RecordEdgeTest {
         test.leavesTheQueue();
         test.reservedUntilTheEnd();
         test.wakesAllThatWait();
+        test.wakesTheFirst();
         test.wakesNone();
         test.wakesByDebtor();
         test.mostEntriesAndReports();
@@ -167,6 +168,20 @@ final class RecordEdgeTest {
         check.due("the next waits again", hub.work(), 103);
         Check.say(hub, Check.answer("q", "t1", 'R'));
         check.due("behind the queue", Check.queue(hub), "4 5 6 7 8 9 10 11 12 13 14 15 16 17 18 19 2 3");
+    }
+
+    private void wakesTheFirst() {
+        check.group("those that wait are RECEIVED again: also transaction 0, and the last one");
+        PaymentHub hub = Check.filled(new PaymentHub(100, 0), 1, "2");
+        check.due("0 waits", hub.work(), 100);
+        Check.say(hub, Check.payment("b", Check.transfer("u", 'C', 'A', "1"), Check.transfer("v", 'A', 'C', "2.01")));
+        Check.work(hub, 2);
+        check.due("queue", Check.queue(hub), "");
+        Check.say(hub, Check.answer("q", "u", 'A'));
+        check.due("queue", Check.queue(hub), "0 2");
+        check.due("statuses", hub.transaction(0, 0) * 100 + hub.transaction(1, 0) * 10 + hub.transaction(2, 0), 141);
+        check.due("just enough now", hub.work(), 0);
+        check.due("waits again", hub.work(), 102);
     }
 
     private void wakesNone() {

@@ -12,6 +12,7 @@ final class RuleEdgeTest {
         RuleEdgeTest test = new RuleEdgeTest(check);
         test.messageName();
         test.messageNameAndPower();
+        test.mostMessageNames();
         test.numberOfTransfers();
         test.sumOfTransfers();
         test.greatestSum();
@@ -88,6 +89,27 @@ final class RuleEdgeTest {
         hub.recover();
         says(hub, Check.payment("n", transfer("n")), 0);
         says(hub, Check.payment("p", transfer("m")), 3);
+    }
+
+    /** Each transaction comes in one P, one Q and one R, so no more than sixty messages are accepted. */
+    private void mostMessageNames() {
+        check.group("rule 3: the I of each of sixty messages");
+        PaymentHub hub = new PaymentHub(1000000, 0);
+        String letters = "abcdefghijklmnopqrst";
+        for (int t = 0; t < 20; t++) {
+            String name = letters.substring(t, t + 1);
+            check.due("submit()", Check.say(hub, Check.payment("p" + name, transfer(name))), 0);
+            check.due("work()", hub.work(), t);
+        }
+        for (int t = 0; t < 20; t++) {
+            String name = letters.substring(t, t + 1);
+            check.due("submit()", Check.say(hub, Check.answer("q" + name, name, 'A')), 0);
+            check.due("submit()", Check.say(hub, Check.back("r" + name, name, "1")), 0);
+        }
+        for (String name : new String[] {"pa", "pt", "qa", "qt", "ra", "rt", "rk"}) {
+            check.due("submit()", Check.say(hub, Check.answer(name, "none", 'A')), 3);
+        }
+        check.due("submit()", Check.say(hub, Check.answer("pu", "none", 'A')), 10);
     }
 
     private void numberOfTransfers() {
@@ -173,6 +195,10 @@ final class RuleEdgeTest {
         says(new PaymentHub(0, 0), Check.payment("m", transfer("0"), transfer("00"), transfer("000")), 0);
         says(new PaymentHub(0, 0), Check.payment("m", transfer("a"), transfer("&#97;")), 8);
         says(new PaymentHub(0, 0), Check.payment("m", transfer("m")), 0);
+        PaymentHub hub = new PaymentHub(0, 0);
+        says(hub, Check.payment("m", transfer("u"), transfer("v"), transfer("v")), 8);
+        says(hub, Check.payment("m", transfer("v")), 0);
+        says(hub, Check.payment("n", transfer("u")), 0);
     }
 
     private void sameNameAsTransaction() {

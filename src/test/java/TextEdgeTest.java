@@ -48,6 +48,8 @@ final class TextEdgeTest {
         test.formOfAmounts();
         test.shortestAndLongestForm();
         test.fullText();
+        test.mostElements();
+        test.nothingOfEarlierTexts();
     }
 
     private void answers(String text, int want) {
@@ -135,7 +137,7 @@ final class TextEdgeTest {
         check.group("the first \"--\" behind \"<!--\" is that of \"-->\"");
         String[] good = {"<!---->", "<!--a-->", "<!---a-->", "<!-- - -->", "<!-->-->", "<!--->-->", "<!--<a>&<!-->", "<!--<!-->", "<!--a- -->"};
         String[] bad = {"<!-->", "<!--->", "<!----->", "<!---a--->", "<!-- --->", "<!-- -- -->", "<!---- >", "<!---- -->", "<!--a-- >",
-            "<!--", "<!--a", "<!--a-", "<!--a--", "<!-", "<!", "<!-a-->", "<! ---->", "<!- --->", "<!a>", "<!>"};
+            "<!--", "<!--a", "<!--a-", "<!--a--", "<!-", "<!", "<!-a-->", "<!-a--->", "<!a--->", "<! --->", "<! ---->", "<!- --->", "<!a>", "<!>"};
         for (String comment : good) {
             answers(comment + "<a/>", NOT_VALID);
             answers("<a/>" + comment, NOT_VALID);
@@ -153,6 +155,11 @@ final class TextEdgeTest {
         inContent(NOT_VALID, "&#65;", "&#065;", "&#100;", "&#65;5", "&#65;;");
         inContent(NOT_WELL_FORMED, "&#;", "&#6;", "&#0065;", "&#0100;", "&#65", "&#065", "&#", "&", "&65;", "#&65;", "& #65;", "&# 65;",
                 "&#6 5;", "&#65 ;", "&#-65;", "&#+65;", "&#6a;", "&#a5;", "&#x41;", "&#6/;", "&#:5;", "&#65:", "&#065<!---->;");
+        for (int c = 32; c <= 126; c++) {
+            inContent(c == '#' ? NOT_VALID : NOT_WELL_FORMED, "&" + (char) c + "65;");
+            inContent(c == ';' ? NOT_VALID : NOT_WELL_FORMED, "&#065" + (char) c);
+            inContent(c >= '0' && c <= '9' ? NOT_VALID : NOT_WELL_FORMED, "&#10" + (char) c + ";");
+        }
         answers(NOT_WELL_FORMED, "<a>&", "<a>&#", "<a>&#6", "<a>&#65", "<a>&#065", "<a>&#65;");
     }
 
@@ -474,9 +481,38 @@ final class TextEdgeTest {
         form(good.replace("a", " ".repeat(room) + "a"), good);
         answers(good + " ".repeat(room - 1) + "x", NOT_WELL_FORMED);
         answers(good + "<!--" + "<".repeat(room - 6) + "--", NOT_WELL_FORMED);
-        answers("<a>" + "<b/>".repeat(73) + "</a> ", NOT_VALID);
-        answers("<a>" + "<b/>".repeat(74), NOT_WELL_FORMED);
         answers("<a>" + "x".repeat(293) + "</a>", NOT_VALID);
         answers("<a>" + "x".repeat(297), NOT_WELL_FORMED);
+    }
+
+    private void mostElements() {
+        check.group("as many elements as 300 characters can hold");
+        String deep = "<a><a><a>";
+        answers("<a>" + "<b/>".repeat(73) + "</a>", NOT_VALID);
+        answers("<a>" + "<b/>".repeat(73) + "</a> ", NOT_VALID);
+        answers("<a>" + "<b/>".repeat(74), NOT_WELL_FORMED);
+        answers("<a>" + "<b/>".repeat(74) + "<", NOT_WELL_FORMED);
+        answers(deep + "<b/>".repeat(72) + "<c", NOT_WELL_FORMED);
+        answers(deep + "<b/>".repeat(72) + "<c>", NOT_WELL_FORMED);
+        answers("<a/>".repeat(75), NOT_WELL_FORMED);
+        answers(deep + "<a>" + "x".repeat(272) + "</a></a></a></a>", NOT_VALID);
+    }
+
+    private void nothingOfEarlierTexts() {
+        check.group("a text is read as if there had been no other");
+        PaymentHub hub = new PaymentHub(0, 0);
+        String good = wrap("Q", ANSWER);
+        String written = "<Q>x" + String.join("x", ANSWER) + "x</Q>";
+        String[] earlier = {written, "<a>x<b>x<c>x<d>x</d></c></b></a>", "<a>" + "<b>x</b>".repeat(30) + "</a>", "<a><b><c><d>", "<a>", "<!--",
+            "<a/>".repeat(75), " ".repeat(300), payment(transfer() + transfer() + transfer()), "<a>" + "~".repeat(290)};
+        for (String text : earlier) {
+            Check.say(hub, text);
+            check.due("behind " + text, Check.say(hub, good), VALID);
+            for (int length = 0; length < good.length(); length++) {
+                Check.say(hub, good);
+                check.due("the first " + length + " of " + good, Check.say(hub, good.substring(0, length)), NOT_WELL_FORMED);
+                hub = length % 10 == 0 ? new PaymentHub(0, 0) : hub;
+            }
+        }
     }
 }
