@@ -15,6 +15,7 @@ public final class AllTests {
         CallEdgeTest.run(check);
         LookEdgeTest.run(check);
         FaceTest.run(check);
+        ReadmeTest.run(check);
         ModelTest.run(check);
         for (int i = 0; i < check.wrong().size() && i < 50; i++) {
             System.out.println(check.wrong().get(i));
